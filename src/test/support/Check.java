@@ -1,4 +1,4 @@
-/** Counts and prints the answers of a test that are not due; a caller's line in its file names the call. */
+/** Counts and prints the answers of a test that are not due; the line in the test's file names the call. */
 final class Check {
     interface Call {
         Object make();
@@ -46,20 +46,23 @@ final class Check {
         }
     }
 
+    /** The lines of the test that lead to here, the innermost first, because a helper's line alone tells little. */
+    static String placeInTest() {
+        StringBuilder place = new StringBuilder();
+        for (StackTraceElement step : new Throwable().getStackTrace()) {
+            String file = step.getFileName();
+            if (file != null && file.endsWith("Test.java") && !step.getMethodName().equals("main")) {
+                place.append(place.length() == 0 ? file : " of").append(':').append(step.getLineNumber());
+            }
+        }
+        return place.toString();
+    }
+
     private static String thrownText(Class<?> thrown) {
         return "throws." + thrown.getName();
     }
 
     private void compare(String want, String got) {
-        same(placeOfCaller(), want, got);
-    }
-
-    private static String placeOfCaller() {
-        for (StackTraceElement step : new Throwable().getStackTrace()) {
-            if (!step.getClassName().equals(Check.class.getName())) {
-                return step.getFileName() + ":" + step.getLineNumber();
-            }
-        }
-        return "a call";
+        same(placeInTest(), want, got);
     }
 }
