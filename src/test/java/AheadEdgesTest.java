@@ -28,6 +28,7 @@ public final class AheadEdgesTest {
         aFetchedLineComesAsShared();
         aLineComesBehindTheMiss();
         aFetchedLineWasUsedLast();
+        aLineBehindAMissOfItsSetIsUsedLast();
         aModifiedLineThatLeavesForItCostsNothing();
         usefulAtTheFirstAccessOnly();
         usefulByAWrite();
@@ -323,14 +324,21 @@ public final class AheadEdgesTest {
             Keepers.read(x, 0, 13);
             dueCounts(x, 0, 0, 0, 0);
         }
-        LineKeeper y = Keepers.wholeMemory();
-        Keepers.read(y, 0, 13);
-        Keepers.read(y, 1, 13);
-        y.setAhead(0, true);
-        Keepers.readAll(y, 0, 10, 11, 12);
-        dueCounts(y, 0, 0, 0, 0);
-        check.due('s', () -> y.state(0, 13));
-        check.due(13, () -> y.oldest(0, 1));
+        for (int other = 1; other < 4; other++) {
+            LineKeeper x = Keepers.wholeMemory();
+            Keepers.read(x, 0, 13);
+            Keepers.read(x, other, 13);
+            x.setAhead(0, true);
+            Keepers.readAll(x, 0, 10, 11, 12);
+            dueCounts(x, 0, 0, 0, 0);
+            check.due('s', () -> x.state(0, 13));
+            check.due(13, () -> x.oldest(0, 1));
+            x.empty(other);
+            x.setAhead(0, true);
+            Keepers.readAll(x, 0, 16, 15, 14);
+            dueCounts(x, 0, 0, 0, 0);
+            check.due('s', () -> x.state(0, 13));
+        }
     }
 
     private static void aLineWithAnotherOwnerIsNotFetched() {
@@ -416,6 +424,17 @@ public final class AheadEdgesTest {
         check.due(13, () -> x.oldest(0, 1));
         Keepers.read(x, 0, 13);
         check.due(17, () -> x.oldest(0, 1));
+    }
+
+    private static void aLineBehindAMissOfItsSetIsUsedLast() {
+        LineKeeper x = aheadOf(0, 41, 37, 33);
+        check.due('-', () -> x.state(0, 37));
+        check.due('e', () -> x.state(0, 29));
+        check.due(33, () -> x.oldest(0, 1));
+        LineKeeper y = aheadOf(0, 29, 33, 37);
+        check.due('-', () -> y.state(0, 33));
+        check.due('e', () -> y.state(0, 41));
+        check.due(37, () -> y.oldest(0, 1));
     }
 
     private static void aModifiedLineThatLeavesForItCostsNothing() {

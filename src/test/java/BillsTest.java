@@ -21,6 +21,7 @@ public final class BillsTest {
         promise30MeanCost();
         promise31IsCoherent();
         promise31SeesWhatIsNotCoherent();
+        promise31SeesTheLastLineAndTheLastAccess();
         promise15ReplaysAndDoesNotReadWhatIsKept();
         check.end();
     }
@@ -333,17 +334,45 @@ public final class BillsTest {
         statesOf(otherState)[0] = 'e';
         check.due(false, otherState::isCoherent);
         LineKeeper otherCost = used();
-        setOfFirstAccess(otherCost, "cost", 41);
+        setOfAccess(otherCost, 0, "cost", 41);
         check.due(false, otherCost::isCoherent);
         LineKeeper otherCause = used();
-        setOfFirstAccess(otherCause, "cause", 'e');
+        setOfAccess(otherCause, 0, "cause", 'e');
         check.due(false, otherCause::isCoherent);
         check.due(true, used()::isCoherent);
     }
 
+    private static void promise31SeesTheLastLineAndTheLastAccess() throws ReflectiveOperationException {
+        int last = 3 * 64 + 63;
+        LineKeeper empty = new LineKeeper();
+        statesOf(empty)[last] = 's';
+        check.due(false, empty::isCoherent);
+        LineKeeper gone = usedAtLast();
+        statesOf(gone)[last] = '-';
+        check.due(false, gone::isCoherent);
+        LineKeeper twoOwners = usedAtLast();
+        statesOf(twoOwners)[63] = 'm';
+        check.due(false, twoOwners::isCoherent);
+        LineKeeper otherCost = usedAtLast();
+        setOfAccess(otherCost, 2, "cost", 2);
+        check.due(false, otherCost::isCoherent);
+        LineKeeper otherCause = usedAtLast();
+        setOfAccess(otherCause, 2, "cause", 'u');
+        check.due(false, otherCause::isCoherent);
+        check.due(true, usedAtLast()::isCoherent);
+    }
+
+    private static LineKeeper usedAtLast() {
+        LineKeeper x = Keepers.onLines(0, 63);
+        x.read(0, 0, 0);
+        x.read(3, 1, 0);
+        x.write(3, 1, 0);
+        return x;
+    }
+
     private static void promise15ReplaysAndDoesNotReadWhatIsKept() throws ReflectiveOperationException {
         LineKeeper x = used();
-        setOfFirstAccess(x, "cost", 41);
+        setOfAccess(x, 0, "cost", 41);
         check.due(41, () -> x.costOf(0));
         check.due(40, () -> x.costByReplay(0));
     }
@@ -359,9 +388,9 @@ public final class BillsTest {
         return (char[]) valueOf(caches, "states");
     }
 
-    private static void setOfFirstAccess(LineKeeper x, String name, Object value)
+    private static void setOfAccess(LineKeeper x, int index, String name, Object value)
             throws ReflectiveOperationException {
-        Object access = ((List<?>) valueOf(x, "accesses")).get(0);
+        Object access = ((List<?>) valueOf(x, "accesses")).get(index);
         Field field = access.getClass().getDeclaredField(name);
         field.setAccessible(true);
         field.set(access, value);

@@ -1,6 +1,6 @@
 import java.util.NoSuchElementException;
 
-/** The edges of the terms "Caches", "Reads", "Writes" and "Costs of replacing", and of promises 9 to 11 and 17 to 21. */
+/** The edges of the terms "Caches", "Reads", "Writes", "Costs of replacing", and of promises 9 to 11 and 17 to 21. */
 public final class CacheEdgesTest {
     private static final Check check = new Check();
 

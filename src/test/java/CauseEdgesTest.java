@@ -19,6 +19,7 @@ public final class CauseEdgesTest {
         costsMoreDoNotChangeTheCause();
         noAccesses();
         indexesFrom0ToTheLast();
+        replaysBehindEmptyingAndSetting();
         refusedAccessesAreNone();
         countsOfEachCause();
         namesWithoutAccesses();
@@ -269,11 +270,45 @@ public final class CauseEdgesTest {
             check.due(costs[i], () -> x.costByReplay(i));
             check.due("chcut".charAt(i), () -> x.causeOf(i));
         }
+        for (int index = 4; index >= 0; index--) {
+            int i = index;
+            check.due(costs[i], () -> x.costByReplay(i));
+            check.due(true, x::isCoherent);
+        }
         for (int index : new int[] {-1, 5, Integer.MIN_VALUE, Integer.MAX_VALUE}) {
             check.isThrown(NoSuchElementException.class, () -> x.costOf(index));
             check.isThrown(NoSuchElementException.class, () -> x.costByReplay(index));
             check.isThrown(NoSuchElementException.class, () -> x.causeOf(index));
         }
+    }
+
+    private static void replaysBehindEmptyingAndSetting() {
+        LineKeeper x = Keepers.wholeMemory();
+        check.due(true, x::isCoherent);
+        Keepers.write(x, 0, 10);
+        x.empty(0);
+        Keepers.write(x, 0, 10);
+        x.setAhead(0, true);
+        x.setAhead(1, true);
+        Keepers.readAll(x, 0, 11, 12, 13);
+        x.setAhead(1, false);
+        Keepers.read(x, 0, 14);
+        x.setAhead(0, false);
+        Keepers.readAll(x, 0, 16, 18, 20);
+        Keepers.readAll(x, 1, 20, 21, 22, 23);
+        x.take(0);
+        x.take(2);
+        x.place(2, 0);
+        int[] costs = {40, 40, 40, 40, 40, 1, 40, 45, 40, 12, 40, 40, 40};
+        for (int turn = 0; turn < 2; turn++) {
+            for (int index = 0; index < costs.length; index++) {
+                int i = index;
+                check.due(costs[i], () -> x.costOf(i));
+                check.due(costs[i], () -> x.costByReplay(i));
+            }
+            check.due(true, x::isCoherent);
+        }
+        check.due(costs.length, x::accesses);
     }
 
     private static void refusedAccessesAreNone() {

@@ -1,4 +1,4 @@
-/** Keepers for tests. In that of wholeMemory, and for read and write, each of the lines 0 to 47 is in the name line / 4. */
+/** Keepers for tests. In that of wholeMemory, for read and write too, each of the lines 0 to 47 is in name line / 4. */
 final class Keepers {
     private Keepers() {
     }
