@@ -32,6 +32,30 @@ final class Keepers {
         return x;
     }
 
+    /**
+     * Names 0 to 7 are on 4 lines each from line 0, 8 and 9 share line 40, and 10 is not placed. Cores 0 and 1 fetch
+     * ahead: 0 has the untried line 3, and 1 is one miss from fetching; 2 and 3 lost lines.
+     */
+    static LineKeeper busy() {
+        LineKeeper x = withNames(32, 32, 32, 32, 32, 32, 32, 32, 4, 4, 8);
+        for (int name = 0; name < 10; name++) {
+            x.place(name, name < 8 ? name * 32 : 288 + name * 4);
+        }
+        x.setAhead(0, true);
+        readAll(x, 0, 0, 1, 2);
+        x.setAhead(1, true);
+        read(x, 1, 5);
+        write(x, 1, 6);
+        readAll(x, 2, 11, 15, 19);
+        read(x, 3, 15);
+        x.empty(3);
+        x.read(2, 8, 0);
+        x.write(3, 9, 3);
+        write(x, 2, 24);
+        read(x, 2, 24);
+        return x;
+    }
+
     static void readAll(LineKeeper x, int core, int... lines) {
         for (int line : lines) {
             read(x, core, line);

@@ -2,10 +2,11 @@ import java.util.ArrayList;
 import java.util.List;
 
 /**
- * Sees that a refused call changes nothing: a keeper that was asked for it answers, and goes on, as its twin that was
- * not. The questions are in parts, each for twins of its own, because a keeper is used for 512 calls only.
+ * Sees that a call changes nothing, because it is refused or only asks: a keeper that was asked for it answers, and
+ * goes on, as its twin that was not. The questions are in parts, each for twins of its own, because a keeper is used
+ * for 512 calls only.
  */
-final class Refusals {
+final class Twins {
     interface Maker {
         LineKeeper make();
     }
@@ -19,14 +20,14 @@ final class Refusals {
     }
 
     private static final List<Part> PARTS =
-        List.of(Refusals::layout, Refusals::states, Refusals::bills, Refusals::wayOn, Refusals::wayOnOfNames);
+        List.of(Twins::layout, Twins::states, Twins::bills, Twins::wayOn, Twins::wayOnOfNames);
 
     private final Check check;
     private final Maker maker;
     private final List<List<String>> answersOfTwin = new ArrayList<>();
 
     /** The maker makes the same keeper each time, with at most 100 calls. */
-    Refusals(Check check, Maker maker) {
+    Twins(Check check, Maker maker) {
         this.check = check;
         this.maker = maker;
         for (Part part : PARTS) {
@@ -34,17 +35,30 @@ final class Refusals {
         }
     }
 
-    void due(Class<? extends RuntimeException> want, Asked asked) {
-        String place = Check.placeInTest();
+    /** The call is refused, and changes nothing. */
+    void isThrown(Class<? extends RuntimeException> want, Asked asked) {
         for (int part = 0; part < PARTS.size(); part++) {
             LineKeeper x = maker.make();
             check.isThrown(want, () -> asked.ask(x));
-            List<String> wants = answersOfTwin.get(part);
-            List<String> gots = PARTS.get(part).answersOf(x);
-            for (int at = 0; at < wants.size(); at++) {
-                check.same(place + ": behind the refused call question " + at + " of part " + part,
-                    wants.get(at), gots.get(at));
-            }
+            compareWithTwin(part, x);
+        }
+    }
+
+    /** The call is answered, and changes nothing. */
+    void due(Object want, Asked asked) {
+        for (int part = 0; part < PARTS.size(); part++) {
+            LineKeeper x = maker.make();
+            check.due(want, () -> asked.ask(x));
+            compareWithTwin(part, x);
+        }
+    }
+
+    private void compareWithTwin(int part, LineKeeper x) {
+        String place = Check.placeInTest();
+        List<String> wants = answersOfTwin.get(part);
+        List<String> gots = PARTS.get(part).answersOf(x);
+        for (int at = 0; at < wants.size(); at++) {
+            check.same(place + ": behind the call question " + at + " of part " + part, wants.get(at), gots.get(at));
         }
     }
 
